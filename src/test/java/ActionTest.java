@@ -104,6 +104,12 @@ public final class ActionTest {
             check.index("addForm(" + i + ")", y, () -> y.addForm(i));
         }
         undoes("refused forms", y, 4);
+        FaceZones small = Check.crystal(1, 2, 3, 1, 0, 0);
+        small.setSystem(4);
+        check.due("the form of 1, 2, 3", small.face(0, 8), 48);
+        small.setSystem(0);
+        check.due("addForm(1) after a greater form", small.addForm(1), 1);
+        check.due("faces then", small.about(0), 3);
         FaceZones z = full();
         z.remove(0);
         z.twin(0);

@@ -41,6 +41,9 @@ public final class LookTest {
         check.due("about(3) with m 5", y.about(3), 5);
         check.due("about(4) with m 5", y.about(4), 0);
         check.due("about(6) with m 5", y.about(6), 0);
+        FaceZones first = new FaceZones();
+        first.addFace(1, 2, 3, 1);
+        check.due("about(1), the only face of half 1", first.about(1), 1);
         FaceZones z = Check.crystal(1, 1, 1);
         z.addFace(1, 1, 1, 1);
         check.due("about(5), a face and its opposite twin", z.about(5), 1);
@@ -108,6 +111,7 @@ public final class LookTest {
         formSize(1, 0, 2, 2, 2, 4, 8, 24);
         formSize(9, 8, -7, 2, 4, 8, 16, 48);
         FaceZones y = cube();
+        check.due("face(2, 7) with m 2", y.face(2, 7), 3);
         y.setLeast(3);
         check.due("face(2, 7) with m 3", y.face(2, 7), 0);
         check.due("face(0, 7) with m 3", y.face(0, 7), 1);
@@ -158,6 +162,24 @@ public final class LookTest {
         x.setLeast(3);
         zoneIs(x, 0, 0, 0, 1, 11);
         check.index("zone(1, 0) with m 3", x, () -> x.zone(1, 0));
+    }
+
+    /** No three of these 16 faces lie in one zone, so each two of them tell a zone of their own. */
+    private static void mostZones() {
+        FaceZones x = Check.crystal(-1, -1, 0, -1, -1, 1, -1, 0, 0, -1, 0, 1, -2, 1, 1, -2, 2, 1, 0, -1, 2, 0, 1, 2,
+            -1, -3, 2, -1, 3, 2, 2, -2, 3, 3, 1, 3, 3, 2, 3, -1, 4, 3, 1, -4, 2, -3, -5, 1);
+        check.due("zones of 16 faces", x.about(4), 120);
+        check.due("zones of the face 7", x.face(7, 7), 15);
+        check.due("the last zone has two faces", x.zone(119, 3), 2);
+        check.index("zone(120, 0)", x, () -> x.zone(120, 0));
+        int told = 0;
+        for (int i = 0; i < 16; i++) {
+            for (int j = i + 1; j < 16; j++) {
+                int z = x.zoneOf(i, j);
+                told += z >= 0 && x.zone(z, 4) == (1 << i | 1 << j) ? 1 : 0;
+            }
+        }
+        check.due("pairs that tell a zone of their own", told, 120);
     }
 
     private static void promise09() {
@@ -329,6 +351,7 @@ public final class LookTest {
         promise06();
         promise07();
         promise08();
+        mostZones();
         promise09();
         promise10();
         promise11();

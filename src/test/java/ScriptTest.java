@@ -85,6 +85,10 @@ public final class ScriptTest {
         script(x, 3, 200002000080001L, 2);
         script(x, 2, 9000090000L, 1);
         script(x, 2, 9000090004L, 1);
+        script(x, 2, 4000020004L, NONE);
+        script(x, 2, 4000020005L, 1);
+        script(x, 2, 4000110900L, NONE);
+        script(x, 2, 4000010900L, 1);
         script(x, 3, 900002000090003L, NONE);
         FaceZones y = full();
         good(y, 20015, 80015, 40000, 80915, 81509);

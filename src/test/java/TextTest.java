@@ -179,6 +179,9 @@ public final class TextTest {
         x.setSystem(4);
         x.save(0);
         x.save(1);
+        x.bestTwin();
+        x.simulate(1, 9);
+        x.runScript(1, 50201);
         Check.tell(x, "X1");
         check.due("load() of X1", x.load(), 0);
         int[] due = {0, 0, 1, 2, 0, 0, 0, 1, 1, 1};

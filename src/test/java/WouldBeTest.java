@@ -61,6 +61,30 @@ public final class WouldBeTest {
         check.due("bestTwin() with two twins and m 4", z.bestTwin(), 222);
     }
 
+    /** A twin plane with a 2 would bring four faces into one zone here, but none with indices from -1 to 1 does. */
+    private static void smallTwinPlanes() {
+        int[][] first = {{4, -3, 0}, {4, 3, 0}};
+        int[][] second = {{-4, 3, 5}, {-4, -3, 5}};
+        int[][] planes = {{2, 1, 0}, {2, -1, 0}, {-1, 2, 0}, {1, 2, 0}};
+        for (int turn = 0; turn < 3; turn++) {
+            for (int n = 0; n < 4; n++) {
+                FaceZones x = new FaceZones();
+                addTurned(x, turn, new int[] {0, 1, 0}, 0);
+                addTurned(x, turn, new int[] {0, 0, 1}, 0);
+                addTurned(x, turn, first[n % 2], 1);
+                addTurned(x, turn, second[n % 2], 1);
+                check.due("bestTwin() with a better plane that has a 2", x.bestTwin(), 112);
+                int[] plane = planes[n];
+                x.setTwin(plane[(3 - turn) % 3], plane[(4 - turn) % 3], plane[(5 - turn) % 3]);
+                check.due("the longest zone with a plane that has a 2", x.about(6), 4);
+            }
+        }
+    }
+
+    private static void addTurned(FaceZones x, int turn, int[] face, int half) {
+        x.addFace(face[(3 - turn) % 3], face[(4 - turn) % 3], face[(5 - turn) % 3], half);
+    }
+
     private static void promise24() {
         FaceZones x = new FaceZones();
         check.due("keyFace() without faces", x.keyFace(), NONE);
@@ -102,6 +126,10 @@ public final class WouldBeTest {
         x.setLeast(6);
         check.due("grown(1) with m 6", x.grown(1), 7);
         check.due("grown adds no face", x.about(0), 4);
+        grows(Check.crystal(1, 1, 1, -1, 1, 1, 1, -1, 1, 1, 1, -1), 4, 7, 13, 37);
+        x.grown(0);
+        x.remove(3);
+        check.due("grown(3) after remove", x.grown(3), 3);
         FaceZones y = Check.crystal(1, 0, 0, 0, 1, 0, 0, 0, 1);
         y.addFace(1, 0, 0, 1);
         check.due("grown(0) with the twin in 1, -2, -2", y.grown(0), 4);
@@ -117,6 +145,7 @@ public final class WouldBeTest {
     public static void main(String[] args) {
         promise22();
         promise23();
+        smallTwinPlanes();
         promise24();
         promise25();
         check.end();
