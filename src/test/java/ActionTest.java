@@ -34,22 +34,22 @@ public final class ActionTest {
         check.due("addFace(6, 9, -3, 0)", x.addFace(6, 9, -3, 0), 5);
         faceIs(x, 5, 2, 3, -1, 0);
         for (int n : new int[] {-10, 10, Integer.MIN_VALUE, Integer.MAX_VALUE}) {
-            check.argument("addFace(" + n + ", 1, 1, 0)", x, () -> x.addFace(n, 1, 1, 0));
-            check.argument("addFace(1, " + n + ", 1, 0)", x, () -> x.addFace(1, n, 1, 0));
-            check.argument("addFace(1, 1, " + n + ", 0)", x, () -> x.addFace(1, 1, n, 0));
+            check.argument("addFace(" + n + ", 1, 1, 0)", () -> x.addFace(n, 1, 1, 0));
+            check.argument("addFace(1, " + n + ", 1, 0)", () -> x.addFace(1, n, 1, 0));
+            check.argument("addFace(1, 1, " + n + ", 0)", () -> x.addFace(1, 1, n, 0));
         }
         for (int half : new int[] {-1, 2, Integer.MIN_VALUE, Integer.MAX_VALUE}) {
-            check.argument("addFace(2, -1, 0, " + half + ")", x, () -> x.addFace(2, -1, 0, half));
+            check.argument("addFace(2, -1, 0, " + half + ")", () -> x.addFace(2, -1, 0, half));
         }
-        check.argument("addFace(0, 0, 0, 0)", x, () -> x.addFace(0, 0, 0, 0));
-        check.state("addFace(2, -1, 0, 0) again", x, () -> x.addFace(2, -1, 0, 0));
-        check.state("addFace(8, -4, 0, 0) again", x, () -> x.addFace(8, -4, 0, 0));
+        check.argument("addFace(0, 0, 0, 0)", () -> x.addFace(0, 0, 0, 0));
+        check.state("addFace(2, -1, 0, 0) again", () -> x.addFace(2, -1, 0, 0));
+        check.state("addFace(8, -4, 0, 0) again", () -> x.addFace(8, -4, 0, 0));
         undoes("six faces and refused ones", x, 5);
         FaceZones y = full();
-        check.state("addFace to 16 faces", y, () -> y.addFace(1, 0, 0, 0));
-        check.state("addFace of a face to 16 faces", y, () -> y.addFace(1, 2, 3, 0));
-        check.argument("addFace(0, 0, 0, 1) to 16 faces", y, () -> y.addFace(0, 0, 0, 1));
-        check.argument("addFace(1, 0, 0, 2) to 16 faces", y, () -> y.addFace(1, 0, 0, 2));
+        check.state("addFace to 16 faces", () -> y.addFace(1, 0, 0, 0));
+        check.state("addFace of a face to 16 faces", () -> y.addFace(1, 2, 3, 0));
+        check.argument("addFace(0, 0, 0, 1) to 16 faces", () -> y.addFace(0, 0, 0, 1));
+        check.argument("addFace(1, 0, 0, 2) to 16 faces", () -> y.addFace(1, 0, 0, 2));
         undoes("refused faces", y, 2);
     }
 
@@ -95,13 +95,13 @@ public final class ActionTest {
         check.due("addForm(7) with 16 faces and none missing", x.addForm(7), 0);
         FaceZones y = Check.crystal(1, 2, 3, 1, 0, 0);
         y.setSystem(3);
-        check.state("addForm(0) to 17 faces", y, () -> y.addForm(0));
+        check.state("addForm(0) to 17 faces", () -> y.addForm(0));
         check.due("faces of the form are counted once", y.addFace(2, 1, 3, 0), 2);
-        check.state("addForm(2) to 17 faces", y, () -> y.addForm(2));
+        check.state("addForm(2) to 17 faces", () -> y.addForm(2));
         y.setSystem(4);
-        check.state("addForm(0) with 48 indices", y, () -> y.addForm(0));
+        check.state("addForm(0) with 48 indices", () -> y.addForm(0));
         for (int i : new int[] {-1, 3, Integer.MIN_VALUE, Integer.MAX_VALUE}) {
-            check.index("addForm(" + i + ")", y, () -> y.addForm(i));
+            check.index("addForm(" + i + ")", () -> y.addForm(i));
         }
         undoes("refused forms", y, 4);
         FaceZones small = Check.crystal(1, 2, 3, 1, 0, 0);
@@ -114,25 +114,25 @@ public final class ActionTest {
         z.remove(0);
         z.twin(0);
         z.setSystem(0);
-        check.state("addForm of the other half to 17 faces", z, () -> z.addForm(15));
+        check.state("addForm of the other half to 17 faces", () -> z.addForm(15));
     }
 
     private static void promise16() {
         FaceZones x = Check.crystal(1, 2, 3, 1, 0, 0);
         check.due("twin(0)", x.twin(0), 2);
         faceIs(x, 2, 1, 2, 3, 1);
-        check.state("twin(0) again", x, () -> x.twin(0));
-        check.state("twin(2)", x, () -> x.twin(2));
+        check.state("twin(0) again", () -> x.twin(0));
+        check.state("twin(2)", () -> x.twin(2));
         x.remove(0);
         check.due("twin of a twin", x.twin(1), 2);
         faceIs(x, 2, 1, 2, 3, 0);
         for (int i : new int[] {-1, 3, Integer.MIN_VALUE, Integer.MAX_VALUE}) {
-            check.index("twin(" + i + ")", x, () -> x.twin(i));
+            check.index("twin(" + i + ")", () -> x.twin(i));
         }
         undoes("twins", x, 4);
         FaceZones y = full();
-        check.state("twin with 16 faces", y, () -> y.twin(3));
-        check.index("twin(16) with 16 faces", y, () -> y.twin(16));
+        check.state("twin with 16 faces", () -> y.twin(3));
+        check.index("twin(16) with 16 faces", () -> y.twin(16));
     }
 
     private static void promise17() {
@@ -142,13 +142,13 @@ public final class ActionTest {
         faceIs(x, 0, 1, 0, 0, 0);
         faceIs(x, 1, 0, 0, 1, 0);
         faceIs(x, 2, 1, 1, 1, 1);
-        check.index("face(3, 0) then", x, () -> x.face(3, 0));
+        check.index("face(3, 0) then", () -> x.face(3, 0));
         check.due("zones then", x.about(4), 3);
         check.due("remove(2)", x.remove(2), 2);
         check.due("remove(0)", x.remove(0), 1);
         faceIs(x, 0, 0, 0, 1, 0);
         for (int i : new int[] {-1, 1, Integer.MIN_VALUE, Integer.MAX_VALUE}) {
-            check.index("remove(" + i + ")", x, () -> x.remove(i));
+            check.index("remove(" + i + ")", () -> x.remove(i));
         }
         undoes("removals", x, 6);
         check.due("faces after undo", x.about(0), 2);
@@ -167,7 +167,7 @@ public final class ActionTest {
             before = system;
         }
         for (int system : new int[] {-1, 5, Integer.MIN_VALUE, Integer.MAX_VALUE}) {
-            check.argument("setSystem(" + system + ")", x, () -> x.setSystem(system));
+            check.argument("setSystem(" + system + ")", () -> x.setSystem(system));
         }
         undoes("six systems", x, 6);
         check.due("about(2) after undo", x.about(2), 2);
@@ -182,7 +182,7 @@ public final class ActionTest {
             check.due("about(4) then", x.about(4), due[m]);
         }
         for (int m : new int[] {1, 7, Integer.MIN_VALUE, Integer.MAX_VALUE}) {
-            check.argument("setLeast(" + m + ")", x, () -> x.setLeast(m));
+            check.argument("setLeast(" + m + ")", () -> x.setLeast(m));
         }
         undoes("five values of m", x, 10);
         check.due("about(3) after undo", x.about(3), 3);
@@ -210,11 +210,11 @@ public final class ActionTest {
         x.setTwin(3, -2, 2);
         planeIs(x, 3, -2, 2);
         for (int n : new int[] {-4, 4, Integer.MIN_VALUE, Integer.MAX_VALUE}) {
-            check.argument("setTwin(" + n + ", 1, 1)", x, () -> x.setTwin(n, 1, 1));
-            check.argument("setTwin(1, " + n + ", 1)", x, () -> x.setTwin(1, n, 1));
-            check.argument("setTwin(1, 1, " + n + ")", x, () -> x.setTwin(1, 1, n));
+            check.argument("setTwin(" + n + ", 1, 1)", () -> x.setTwin(n, 1, 1));
+            check.argument("setTwin(1, " + n + ", 1)", () -> x.setTwin(1, n, 1));
+            check.argument("setTwin(1, 1, " + n + ")", () -> x.setTwin(1, 1, n));
         }
-        check.argument("setTwin(0, 0, 0)", x, () -> x.setTwin(0, 0, 0));
+        check.argument("setTwin(0, 0, 0)", () -> x.setTwin(0, 0, 0));
         undoes("five twin planes", x, 7);
         planeIs(x, -1, -1, -1);
         check.due("face 2 is mirrored in the plane before", x.face(2, 4), -1);
@@ -234,7 +234,7 @@ public final class ActionTest {
             undoes("16 faces", x, left);
             check.due("faces with " + left + " states left", x.about(0), left + 2);
         }
-        check.state("undo() of a forgotten state", x, x::undo);
+        check.state("undo() of a forgotten state", x::undo);
         faceIs(x, 1, 2, 1, 0, 0);
         check.due("addFace after undo", x.addFace(5, 1, 0, 0), 2);
         undoes("one more", x, 0);

@@ -1,9 +1,13 @@
 import java.util.ArrayList;
 import java.util.List;
 import java.util.function.LongSupplier;
+import java.util.function.Supplier;
+import java.util.function.ToLongFunction;
 
 /** Counts what is not as due, and tells it. */
 final class Check {
+    private static final int MOST_UNDONE = 16;
+
     private final String name;
     private int done = 0;
     private int wrong = 0;
@@ -26,10 +30,9 @@ final class Check {
         }
     }
 
-    /** The call throws exactly this exception, and the object shows the same before and after. */
-    void refused(String call, Class<? extends RuntimeException> want, FaceZones x, LongSupplier run) {
+    /** The call throws exactly this exception. */
+    void refused(String call, Class<? extends RuntimeException> want, LongSupplier run) {
         done++;
-        List<Long> before = view(x);
         String got = "nothing";
         try {
             run.getAsLong();
@@ -39,35 +42,107 @@ final class Check {
         if (!got.equals(want.getName())) {
             fail(call + " throws " + got + ", due is " + want.getName());
         }
-        if (!view(x).equals(before)) {
-            fail(call + " throws and yet changes something");
+    }
+
+    void index(String call, LongSupplier run) {
+        refused(call, IndexOutOfBoundsException.class, run);
+    }
+
+    void argument(String call, LongSupplier run) {
+        refused(call, IllegalArgumentException.class, run);
+    }
+
+    void state(String call, LongSupplier run) {
+        refused(call, IllegalStateException.class, run);
+    }
+
+    /** The call throws exactly this exception, and everything about the object is as without the call. */
+    void refused(String call, Class<? extends RuntimeException> want, Supplier<FaceZones> make,
+            ToLongFunction<FaceZones> run) {
+        FaceZones x = make.get();
+        refused(call, want, () -> run.applyAsLong(x));
+        keeps(call, make, run);
+    }
+
+    void index(String call, Supplier<FaceZones> make, ToLongFunction<FaceZones> run) {
+        refused(call, IndexOutOfBoundsException.class, make, run);
+    }
+
+    void argument(String call, Supplier<FaceZones> make, ToLongFunction<FaceZones> run) {
+        refused(call, IllegalArgumentException.class, make, run);
+    }
+
+    void state(String call, Supplier<FaceZones> make, ToLongFunction<FaceZones> run) {
+        refused(call, IllegalStateException.class, make, run);
+    }
+
+    /** After the call, everything about the object is as without it. */
+    void keeps(String call, Supplier<FaceZones> make, ToLongFunction<FaceZones> run) {
+        done++;
+        List<Long> untouched = portrait(make);
+        List<Long> touched = portrait(() -> {
+            FaceZones x = make.get();
+            answer(() -> run.applyAsLong(x));
+            return x;
+        });
+        if (!touched.equals(untouched)) {
+            fail(call + " changes something");
         }
     }
 
-    void index(String call, FaceZones x, LongSupplier run) {
-        refused(call, IndexOutOfBoundsException.class, x, run);
+    /** What the call answers; for each kind of exception a number that no call answers. */
+    private static long answer(LongSupplier run) {
+        try {
+            return run.getAsLong();
+        } catch (IndexOutOfBoundsException e) {
+            return Long.MIN_VALUE;
+        } catch (IllegalArgumentException e) {
+            return Long.MIN_VALUE + 1;
+        } catch (IllegalStateException e) {
+            return Long.MIN_VALUE + 2;
+        }
     }
 
-    void argument(String call, FaceZones x, LongSupplier run) {
-        refused(call, IllegalArgumentException.class, x, run);
+    /**
+     * All that can be seen of an object: what is there, what each undo and each slot bring back, and the text. Each
+     * look takes an object of its own, because an object answers for 512 calls alone.
+     */
+    static List<Long> portrait(Supplier<FaceZones> make) {
+        List<Long> seen = new ArrayList<>(view(make.get()));
+        for (int undone = 1; undone <= MOST_UNDONE; undone++) {
+            FaceZones x = make.get();
+            long left = 0;
+            for (int n = 0; n < undone; n++) {
+                left = answer(x::undo);
+            }
+            seen.add(left);
+            seen.addAll(view(x));
+        }
+        for (int slot = 0; slot < 2; slot++) {
+            FaceZones x = make.get();
+            int from = slot;
+            seen.add(answer(() -> x.restore(from)));
+            seen.addAll(view(x));
+        }
+        FaceZones x = make.get();
+        seen.add((long) x.errorPosition());
+        seen.add(answer(x::load));
+        seen.addAll(view(x));
+        seen.add((long) x.clearText());
+        return seen;
     }
 
-    void state(String call, FaceZones x, LongSupplier run) {
-        refused(call, IllegalStateException.class, x, run);
-    }
-
-    /** What can be seen of an object without a change, in few calls. */
+    /** What there is, in at most 138 calls. */
     static List<Long> view(FaceZones x) {
         List<Long> seen = new ArrayList<>();
         for (int what = 0; what <= 9; what++) {
             seen.add((long) x.about(what));
         }
         for (int i = 0; i < x.about(0); i++) {
-            for (int what = 0; what <= 3; what++) {
+            for (int what = 0; what <= 6; what++) {
                 seen.add((long) x.face(i, what));
             }
         }
-        seen.add((long) x.errorPosition());
         return seen;
     }
 
@@ -105,10 +180,14 @@ final class Check {
         }
     }
 
+    boolean isGood() {
+        return wrong == 0 && done > 0;
+    }
+
     /** Ends the program with exit code 1 if something was wrong. */
     void end() {
         System.out.println(name + ": " + done + " checks, " + wrong + " wrong");
-        if (wrong != 0 || done == 0) {
+        if (!isGood()) {
             System.exit(1);
         }
     }

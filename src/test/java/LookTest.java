@@ -49,7 +49,7 @@ public final class LookTest {
         check.due("about(5), a face and its opposite twin", z.about(5), 1);
         check.due("about(4), a face and its opposite twin", z.about(4), 0);
         for (int what : new int[] {-1, 10, Integer.MIN_VALUE, Integer.MAX_VALUE}) {
-            check.argument("about(" + what + ")", z, () -> z.about(what));
+            check.argument("about(" + what + ")", () -> z.about(what));
         }
     }
 
@@ -116,11 +116,11 @@ public final class LookTest {
         check.due("face(2, 7) with m 3", y.face(2, 7), 0);
         check.due("face(0, 7) with m 3", y.face(0, 7), 1);
         for (int i : new int[] {-1, 4, Integer.MIN_VALUE, Integer.MAX_VALUE}) {
-            check.index("face(" + i + ", 0)", y, () -> y.face(i, 0));
-            check.index("face(" + i + ", 9)", y, () -> y.face(i, 9));
+            check.index("face(" + i + ", 0)", () -> y.face(i, 0));
+            check.index("face(" + i + ", 9)", () -> y.face(i, 9));
         }
         for (int what : new int[] {-1, 9, Integer.MIN_VALUE, Integer.MAX_VALUE}) {
-            check.argument("face(0, " + what + ")", y, () -> y.face(0, what));
+            check.argument("face(0, " + what + ")", () -> y.face(0, what));
         }
     }
 
@@ -153,15 +153,15 @@ public final class LookTest {
         FaceZones far = Check.crystal(9, 8, 7, -7, 9, 8);
         zoneIs(far, 0, 1, -121, 137, 3);
         for (int n : new int[] {-1, 4, Integer.MIN_VALUE, Integer.MAX_VALUE}) {
-            check.index("zone(" + n + ", 0)", x, () -> x.zone(n, 0));
-            check.index("zone(" + n + ", 5)", x, () -> x.zone(n, 5));
+            check.index("zone(" + n + ", 0)", () -> x.zone(n, 0));
+            check.index("zone(" + n + ", 5)", () -> x.zone(n, 5));
         }
         for (int what : new int[] {-1, 5, Integer.MIN_VALUE, Integer.MAX_VALUE}) {
-            check.argument("zone(3, " + what + ")", x, () -> x.zone(3, what));
+            check.argument("zone(3, " + what + ")", () -> x.zone(3, what));
         }
         x.setLeast(3);
         zoneIs(x, 0, 0, 0, 1, 11);
-        check.index("zone(1, 0) with m 3", x, () -> x.zone(1, 0));
+        check.index("zone(1, 0) with m 3", () -> x.zone(1, 0));
     }
 
     /** No three of these 16 faces lie in one zone, so each two of them tell a zone of their own. */
@@ -171,7 +171,7 @@ public final class LookTest {
         check.due("zones of 16 faces", x.about(4), 120);
         check.due("zones of the face 7", x.face(7, 7), 15);
         check.due("the last zone has two faces", x.zone(119, 3), 2);
-        check.index("zone(120, 0)", x, () -> x.zone(120, 0));
+        check.index("zone(120, 0)", () -> x.zone(120, 0));
         int told = 0;
         for (int i = 0; i < 16; i++) {
             for (int j = i + 1; j < 16; j++) {
@@ -197,8 +197,8 @@ public final class LookTest {
         check.due("zoneOf(0, 3) with m 4", x.zoneOf(0, 3), 0);
         check.due("zoneOf(0, 2) with m 4", x.zoneOf(0, 2), NONE);
         for (int n : new int[] {-1, 5, Integer.MIN_VALUE, Integer.MAX_VALUE}) {
-            check.index("zoneOf(" + n + ", 0)", x, () -> x.zoneOf(n, 0));
-            check.index("zoneOf(0, " + n + ")", x, () -> x.zoneOf(0, n));
+            check.index("zoneOf(" + n + ", 0)", () -> x.zoneOf(n, 0));
+            check.index("zoneOf(0, " + n + ")", () -> x.zoneOf(0, n));
         }
     }
 
@@ -216,9 +216,9 @@ public final class LookTest {
         x.setLeast(6);
         check.due("inZone(0, 0, 1) if it is not listed", x.inZone(0, 0, 1), 4);
         for (int n : new int[] {-100, 100, Integer.MIN_VALUE, Integer.MAX_VALUE}) {
-            check.argument("inZone(" + n + ", 0, 0)", x, () -> x.inZone(n, 0, 0));
-            check.argument("inZone(0, " + n + ", 0)", x, () -> x.inZone(0, n, 0));
-            check.argument("inZone(0, 0, " + n + ")", x, () -> x.inZone(0, 0, n));
+            check.argument("inZone(" + n + ", 0, 0)", () -> x.inZone(n, 0, 0));
+            check.argument("inZone(0, " + n + ", 0)", () -> x.inZone(0, n, 0));
+            check.argument("inZone(0, 0, " + n + ")", () -> x.inZone(0, 0, n));
         }
         check.due("inZone without faces", new FaceZones().inZone(1, 0, 0), 0);
     }
@@ -243,13 +243,13 @@ public final class LookTest {
         FaceZones first = Check.crystal(0, 1, 0, -1, 0, 0, 0, 0, 1, 1, 0, 0);
         crossIs(first, 0, 1, 1, 0, 0, 1);
         for (int n : new int[] {-1, 4, Integer.MIN_VALUE, Integer.MAX_VALUE}) {
-            check.index("cross(" + n + ", 0, 0)", x, () -> x.cross(n, 0, 0));
-            check.index("cross(0, " + n + ", 0)", x, () -> x.cross(0, n, 0));
-            check.index("cross(" + n + ", " + n + ", 4)", x, () -> x.cross(n, n, 4));
+            check.index("cross(" + n + ", 0, 0)", () -> x.cross(n, 0, 0));
+            check.index("cross(0, " + n + ", 0)", () -> x.cross(0, n, 0));
+            check.index("cross(" + n + ", " + n + ", 4)", () -> x.cross(n, n, 4));
         }
-        check.argument("cross(2, 2, 0)", x, () -> x.cross(2, 2, 0));
+        check.argument("cross(2, 2, 0)", () -> x.cross(2, 2, 0));
         for (int what : new int[] {-1, 4, Integer.MIN_VALUE, Integer.MAX_VALUE}) {
-            check.argument("cross(0, 1, " + what + ")", x, () -> x.cross(0, 1, what));
+            check.argument("cross(0, 1, " + what + ")", () -> x.cross(0, 1, what));
         }
         farCrosses();
     }
@@ -302,8 +302,8 @@ public final class LookTest {
         check.due("angle(7, 8)", x.angle(7, 8), -10000);
         check.due("angle(7, 0)", x.angle(7, 0), -10000L * 87 * 87 / 9506);
         for (int n : new int[] {-1, 9, Integer.MIN_VALUE, Integer.MAX_VALUE}) {
-            check.index("angle(" + n + ", 0)", x, () -> x.angle(n, 0));
-            check.index("angle(0, " + n + ")", x, () -> x.angle(0, n));
+            check.index("angle(" + n + ", 0)", () -> x.angle(n, 0));
+            check.index("angle(0, " + n + ")", () -> x.angle(0, n));
         }
     }
 
@@ -342,8 +342,8 @@ public final class LookTest {
         check.isTrue("the same of opposite indices", !x.sameForm(0, 2));
         check.isTrue("two twins may be of one form", x.sameForm(1, 2));
         for (int n : new int[] {-1, 3, Integer.MIN_VALUE, Integer.MAX_VALUE}) {
-            check.index("sameForm(" + n + ", 0)", x, () -> x.sameForm(n, 0) ? 1 : 0);
-            check.index("sameForm(0, " + n + ")", x, () -> x.sameForm(0, n) ? 1 : 0);
+            check.index("sameForm(" + n + ", 0)", () -> x.sameForm(n, 0) ? 1 : 0);
+            check.index("sameForm(0, " + n + ")", () -> x.sameForm(0, n) ? 1 : 0);
         }
     }
 

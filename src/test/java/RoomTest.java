@@ -34,14 +34,18 @@ public final class RoomTest {
 
     public static void main(String[] args) {
         run(new FaceZones());
+        // An object for each run, because it answers for 512 calls alone.
+        FaceZones[] objects = new FaceZones[RUNS];
         long start = bytes();
-        FaceZones x = new FaceZones();
-        long made = bytes() - start;
+        for (int n = 0; n < RUNS; n++) {
+            objects[n] = new FaceZones();
+        }
+        long made = (bytes() - start) / RUNS;
         check.isTrue("an object takes " + made + " bytes, at most " + OBJECT_BYTES, made <= OBJECT_BYTES);
         start = bytes();
         long sum = 0;
-        for (int n = 0; n < RUNS; n++) {
-            sum += run(x);
+        for (FaceZones object : objects) {
+            sum += run(object);
         }
         long used = bytes() - start;
         check.isTrue("runs use " + used + " bytes, at most " + RUN_BYTES + " (" + sum + ")", used <= RUN_BYTES);

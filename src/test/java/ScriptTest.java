@@ -33,16 +33,16 @@ public final class ScriptTest {
     private static void arguments() {
         FaceZones x = cube();
         for (int n : new int[] {0, 4, -1, Integer.MIN_VALUE, Integer.MAX_VALUE}) {
-            check.argument("runScript(" + n + ", 0)", x, () -> x.runScript(n, 0));
+            check.argument("runScript(" + n + ", 0)", () -> x.runScript(n, 0));
         }
         for (long script : new long[] {-1, Long.MIN_VALUE, Long.MAX_VALUE, 1000000000000000L}) {
             for (int n = 1; n <= 3; n++) {
                 int commands = n;
-                check.argument("runScript(" + n + ", " + script + ")", x, () -> x.runScript(commands, script));
+                check.argument("runScript(" + n + ", " + script + ")", () -> x.runScript(commands, script));
             }
         }
-        check.argument("runScript(1, 100000)", x, () -> x.runScript(1, 100000));
-        check.argument("runScript(2, 10000000000)", x, () -> x.runScript(2, 10000000000L));
+        check.argument("runScript(1, 100000)", () -> x.runScript(1, 100000));
+        check.argument("runScript(2, 10000000000)", () -> x.runScript(2, 10000000000L));
         script(x, 1, 99999, 0);
         script(x, 2, 9999999999L, 0);
         script(x, 3, 999999999999999L, 0);
@@ -60,7 +60,7 @@ public final class ScriptTest {
         script(x, 3, 101002000020000L, 2);
         script(x, 3, 101000000010200L, 1);
         check.due("a script changes no faces", x.about(0), 0);
-        check.state("a script is no action", x, x::undo);
+        check.state("a script is no action", x::undo);
     }
 
     private static void adding() {
@@ -184,7 +184,7 @@ public final class ScriptTest {
         check.due("simulate adds no face", x.about(0), 4);
         check.due("simulate is no action", x.undo(), 3);
         for (int m : new int[] {0, 100, -1, Integer.MIN_VALUE, Integer.MAX_VALUE}) {
-            check.argument("simulate(1, " + m + ")", x, () -> x.simulate(1, m));
+            check.argument("simulate(1, " + m + ")", () -> x.simulate(1, m));
         }
     }
 

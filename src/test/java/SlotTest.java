@@ -21,7 +21,7 @@ public final class SlotTest {
         x.remove(0);
         check.due("save(1)", x.save(1), 2);
         for (int slot : WRONG_SLOTS) {
-            check.index("save(" + slot + ")", x, () -> x.save(slot));
+            check.index("save(" + slot + ")", () -> x.save(slot));
         }
         check.due("save is no action", x.undo(), 6);
         check.due("faces then", x.about(0), 3);
@@ -36,14 +36,14 @@ public final class SlotTest {
 
     private static void promise29() {
         FaceZones x = dressed();
-        check.state("restore(0) before a save", x, () -> x.restore(0));
+        check.state("restore(0) before a save", () -> x.restore(0));
         check.due("undo() after a refused restore", x.undo(), 5);
         x.setTwin(2, -1, 0);
         List<Long> before = Check.view(x);
         x.save(1);
-        check.state("restore(0) with the slot 1 saved", x, () -> x.restore(0));
+        check.state("restore(0) with the slot 1 saved", () -> x.restore(0));
         for (int slot : WRONG_SLOTS) {
-            check.index("restore(" + slot + ")", x, () -> x.restore(slot));
+            check.index("restore(" + slot + ")", () -> x.restore(slot));
         }
         x.remove(2);
         x.addFace(5, 5, 4, 1);
@@ -52,12 +52,12 @@ public final class SlotTest {
         x.setTwin(0, 1, 0);
         check.due("restore(1)", x.restore(1), 3);
         check.isTrue("restore brings back all that can be seen", Check.view(x).equals(before));
-        check.state("undo() after restore", x, x::undo);
+        check.state("undo() after restore", x::undo);
         x.remove(0);
         x.remove(0);
         check.due("restore(1) again", x.restore(1), 3);
         check.isTrue("the slot keeps what was saved", Check.view(x).equals(before));
-        check.state("undo() after the second restore", x, x::undo);
+        check.state("undo() after the second restore", x::undo);
         check.due("the text stays", x.clearText(), 7);
         x.setSystem(4);
         check.due("undo() of an action after restore", x.undo(), 0);
@@ -78,11 +78,11 @@ public final class SlotTest {
         x.save(0);
         x.save(1);
         x.load();
-        check.state("restore(0) after load", x, () -> x.restore(0));
-        check.state("restore(1) after load", x, () -> x.restore(1));
+        check.state("restore(0) after load", () -> x.restore(0));
+        check.state("restore(1) after load", () -> x.restore(1));
         check.due("save(0) after load", x.save(0), 1);
         check.due("restore(0) then", x.restore(0), 1);
-        check.state("restore(1) is still empty", x, () -> x.restore(1));
+        check.state("restore(1) is still empty", () -> x.restore(1));
     }
 
     public static void main(String[] args) {

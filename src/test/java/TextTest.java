@@ -12,12 +12,12 @@ public final class TextTest {
         check.due("keyFace() of a new object", x.keyFace(), NONE);
         check.due("errorPosition() of a new object", x.errorPosition(), 0);
         check.due("clearText() of a new object", x.clearText(), 0);
-        check.state("undo() of a new object", x, x::undo);
-        check.state("load() of a new object", x, x::load);
-        check.state("restore(0) of a new object", x, () -> x.restore(0));
-        check.state("restore(1) of a new object", x, () -> x.restore(1));
-        check.index("face(0, 0) of a new object", x, () -> x.face(0, 0));
-        check.index("zone(0, 0) of a new object", x, () -> x.zone(0, 0));
+        check.state("undo() of a new object", x::undo);
+        check.state("load() of a new object", x::load);
+        check.state("restore(0) of a new object", () -> x.restore(0));
+        check.state("restore(1) of a new object", () -> x.restore(1));
+        check.index("face(0, 0) of a new object", () -> x.face(0, 0));
+        check.index("zone(0, 0) of a new object", () -> x.zone(0, 0));
         new FaceZones().addFace(1, 0, 0, 0);
         check.due("about(0) after a face in another object", x.about(0), 0);
     }
@@ -27,13 +27,13 @@ public final class TextTest {
         check.due("append(0)", x.append(0), 1);
         check.due("append(255)", x.append(255), 2);
         for (int c : new int[] {-1, 256, Integer.MIN_VALUE, Integer.MAX_VALUE}) {
-            check.argument("append(" + c + ")", x, () -> x.append(c));
+            check.argument("append(" + c + ")", () -> x.append(c));
         }
         for (int n = 3; n <= 100; n++) {
             check.due("append(88)", x.append(88), n);
         }
-        check.state("append to 100 characters", x, () -> x.append(88));
-        check.argument("append(256) to 100 characters", x, () -> x.append(256));
+        check.state("append to 100 characters", () -> x.append(88));
+        check.argument("append(256) to 100 characters", () -> x.append(256));
         check.due("clearText() after that", x.clearText(), 100);
     }
 
@@ -47,14 +47,14 @@ public final class TextTest {
         FaceZones y = Check.loaded("X2f0123");
         y.clearText();
         check.due("faces after clearText", y.about(0), 1);
-        check.state("clearText is no action", y, y::undo);
+        check.state("clearText is no action", y::undo);
     }
 
     private static void error(String text, int due) {
         FaceZones x = Check.withText(text);
         check.due("errorPosition() of \"" + text + "\"", x.errorPosition(), due);
         if (due != NONE) {
-            check.state("load() of \"" + text + "\"", x, x::load);
+            check.state("load() of \"" + text + "\"", x::load);
         }
     }
 
@@ -188,9 +188,9 @@ public final class TextTest {
         for (int what = 0; what < due.length; what++) {
             check.due("about(" + what + ") after load of X1", x.about(what), due[what]);
         }
-        check.state("undo() after load", x, x::undo);
-        check.state("restore(0) after load", x, () -> x.restore(0));
-        check.state("restore(1) after load", x, () -> x.restore(1));
+        check.state("undo() after load", x::undo);
+        check.state("restore(0) after load", () -> x.restore(0));
+        check.state("restore(1) after load", () -> x.restore(1));
         x.addFace(1, 2, 3, 0);
         check.due("zones of an older state are gone", x.about(4), 0);
     }
@@ -199,7 +199,7 @@ public final class TextTest {
         FaceZones x = Check.crystal(1, 0, 0, 0, 1, 0);
         x.save(1);
         Check.tell(x, "X4f0111f0000");
-        check.state("load() of a wrong text", x, x::load);
+        check.state("load() of a wrong text", x::load);
         check.due("undo() after a refused load", x.undo(), 1);
         check.due("restore(1) after a refused load", x.restore(1), 2);
         check.due("the text after a refused load", x.clearText(), 12);

@@ -13,12 +13,12 @@ public final class WouldBeTest {
         check.due("whyNot(0, 0, 0, 1)", x.whyNot(0, 0, 0, 1), 1);
         check.due("whyNot(9, -9, 9, 1)", x.whyNot(9, -9, 9, 1), 0);
         for (int n : new int[] {-10, 10, Integer.MIN_VALUE, Integer.MAX_VALUE}) {
-            check.argument("whyNot(" + n + ", 0, 0, 0)", x, () -> x.whyNot(n, 0, 0, 0));
-            check.argument("whyNot(0, " + n + ", 0, 0)", x, () -> x.whyNot(0, n, 0, 0));
-            check.argument("whyNot(0, 0, " + n + ", 0)", x, () -> x.whyNot(0, 0, n, 0));
+            check.argument("whyNot(" + n + ", 0, 0, 0)", () -> x.whyNot(n, 0, 0, 0));
+            check.argument("whyNot(0, " + n + ", 0, 0)", () -> x.whyNot(0, n, 0, 0));
+            check.argument("whyNot(0, 0, " + n + ", 0)", () -> x.whyNot(0, 0, n, 0));
         }
         for (int half : new int[] {-1, 2, Integer.MIN_VALUE, Integer.MAX_VALUE}) {
-            check.argument("whyNot(0, 0, 0, " + half + ")", x, () -> x.whyNot(0, 0, 0, half));
+            check.argument("whyNot(0, 0, 0, " + half + ")", () -> x.whyNot(0, 0, 0, half));
         }
         check.due("whyNot adds nothing", x.about(0), 1);
         FaceZones y = Check.crystal(1, 2, 3);
@@ -59,30 +59,6 @@ public final class WouldBeTest {
         check.due("bestTwin() with two twins", z.bestTwin(), 222);
         z.setLeast(4);
         check.due("bestTwin() with two twins and m 4", z.bestTwin(), 222);
-    }
-
-    /** A twin plane with a 2 would bring four faces into one zone here, but none with indices from -1 to 1 does. */
-    private static void smallTwinPlanes() {
-        int[][] first = {{4, -3, 0}, {4, 3, 0}};
-        int[][] second = {{-4, 3, 5}, {-4, -3, 5}};
-        int[][] planes = {{2, 1, 0}, {2, -1, 0}, {-1, 2, 0}, {1, 2, 0}};
-        for (int turn = 0; turn < 3; turn++) {
-            for (int n = 0; n < 4; n++) {
-                FaceZones x = new FaceZones();
-                addTurned(x, turn, new int[] {0, 1, 0}, 0);
-                addTurned(x, turn, new int[] {0, 0, 1}, 0);
-                addTurned(x, turn, first[n % 2], 1);
-                addTurned(x, turn, second[n % 2], 1);
-                check.due("bestTwin() with a better plane that has a 2", x.bestTwin(), 112);
-                int[] plane = planes[n];
-                x.setTwin(plane[(3 - turn) % 3], plane[(4 - turn) % 3], plane[(5 - turn) % 3]);
-                check.due("the longest zone with a plane that has a 2", x.about(6), 4);
-            }
-        }
-    }
-
-    private static void addTurned(FaceZones x, int turn, int[] face, int half) {
-        x.addFace(face[(3 - turn) % 3], face[(4 - turn) % 3], face[(5 - turn) % 3], half);
     }
 
     private static void promise24() {
@@ -138,14 +114,13 @@ public final class WouldBeTest {
         y.setTwin(2, 1, 0);
         check.due("grown(0) with the twin in -3, -4, 0", y.grown(0), 3);
         for (int rounds : new int[] {-1, 4, Integer.MIN_VALUE, Integer.MAX_VALUE}) {
-            check.argument("grown(" + rounds + ")", y, () -> y.grown(rounds));
+            check.argument("grown(" + rounds + ")", () -> y.grown(rounds));
         }
     }
 
     public static void main(String[] args) {
         promise22();
         promise23();
-        smallTwinPlanes();
         promise24();
         promise25();
         check.end();
