@@ -615,7 +615,9 @@ public final class FaceZones {
 
         private void divideBy(long divisor) {
             if (divisor != 0) {
-                put(a / divisor, b / divisor, c / divisor);
+                a /= divisor;
+                b /= divisor;
+                c /= divisor;
             }
         }
 

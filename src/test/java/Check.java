@@ -124,15 +124,26 @@ final class Check {
             seen.add(answer(() -> x.restore(from)));
             seen.addAll(view(x));
         }
-        FaceZones x = make.get();
-        seen.add((long) x.errorPosition());
-        seen.add(answer(x::load));
-        seen.addAll(view(x));
-        seen.add((long) x.clearText());
+        seen.addAll(viewOfText(make));
         return seen;
     }
 
-    /** What there is, in at most 138 calls. */
+    private static List<Long> viewOfText(Supplier<FaceZones> make) {
+        List<Long> seen = new ArrayList<>();
+        seen.add((long) make.get().clearText());
+        FaceZones x = make.get();
+        seen.add((long) x.errorPosition());
+        seen.add(answer(() -> x.append('1')));
+        seen.add((long) x.errorPosition());
+        seen.add((long) x.clearText());
+        FaceZones y = make.get();
+        seen.add(answer(y::load));
+        seen.addAll(view(y));
+        seen.add((long) y.clearText());
+        return seen;
+    }
+
+    /** What there is, in at most 139 calls. */
     static List<Long> view(FaceZones x) {
         List<Long> seen = new ArrayList<>();
         for (int what = 0; what <= 9; what++) {

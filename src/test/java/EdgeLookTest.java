@@ -5,6 +5,7 @@ public final class EdgeLookTest {
     private static final int NONE = FaceZones.NONE;
     private static final int LEAST_INT = Integer.MIN_VALUE;
     private static final int GREATEST_INT = Integer.MAX_VALUE;
+    private static final Supplier<FaceZones> CROWDED = Crystals::crowded;
 
     /** A crystal without a listed zone: 16 faces, each two in a zone of their own, and m is 3. */
     private static FaceZones unlisted() {
@@ -913,7 +914,7 @@ public final class EdgeLookTest {
         check.isTrue("not sameForm(0, 2) then", !x.sameForm(0, 2));
     }
 
-    private static final Supplier<FaceZones> CROWDED = Crystals::crowded;
+    // ---- promises 6 to 13: looking changes nothing
 
     static void promise06ChangesNothing(Check check) {
         check.keeps("about(4)", CROWDED, x -> x.about(4));

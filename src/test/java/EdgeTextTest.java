@@ -97,18 +97,26 @@ public final class EdgeTextTest {
     static void promise01The512thCallIsPromised(Check check) {
         FaceZones x = new FaceZones();
         for (int n = 1; n <= 100; n++) {
-            x.append('f');
-            x.errorPosition();
-            x.clearText();
-            x.setSystem(n % 5);
-            x.about(2);
+            check.due("append('f')", x.append('f'), 1);
+            check.due("errorPosition()", x.errorPosition(), 0);
+            check.due("clearText()", x.clearText(), 1);
+            check.due("setSystem", x.setSystem(n % 5), (n - 1) % 5);
+            check.due("about(2)", x.about(2), n % 5);
         }
         for (int n = 501; n <= 509; n++) {
-            x.addFace(1, n - 500, 0, 0);
+            check.due("call " + n + ": addFace", x.addFace(1, n - 500, 0, 0), n - 501);
         }
         check.due("call 510: undo()", x.undo(), 13);
         check.due("call 511: about(0)", x.about(0), 8);
         check.due("call 512: about(4)", x.about(4), 1);
+    }
+
+    static void promise01EachOf512CallsIsPromised(Check check) {
+        FaceZones x = Crystals.cube();
+        int[] due = {4, 0, 0, 2, 4, 4, 3, 1, 1, 1};
+        for (int call = 5; call <= 512; call++) {
+            check.due("call " + call + ": about", x.about(call % 10), due[call % 10]);
+        }
     }
 
     // ---- promise 2
@@ -410,7 +418,7 @@ public final class EdgeTextTest {
         FaceZones x = Check.withText("X0f0000");
         check.due("errorPosition()", x.errorPosition(), 6);
         check.due("errorPosition() again", x.errorPosition(), 6);
-        x.clearText();
+        check.due("clearText()", x.clearText(), 7);
         Check.tell(x, "X0f0");
         check.due("errorPosition() of another text", x.errorPosition(), 4);
         Check.tell(x, "001");

@@ -262,6 +262,20 @@ public final class EdgeWouldBeTest {
         }
     }
 
+    /** The face on which most zones hang is told by the zones that are left, not by those in which it lies. */
+    static void promise24FewestZonesAreLeftWithoutIt(Check check) {
+        // The parallel faces 0 and 1 lie in three zones each, but without one of them the other still tells these.
+        FaceZones x = Check.crystal(2, 1, 0, -2, -1, 0, -1, -2, -2, 1, 2, -2, -1, -2, 0);
+        check.due("face(0, 7)", x.face(0, 7), 3);
+        check.due("face(2, 7)", x.face(2, 7), 2);
+        check.due("keyFace()", x.keyFace(), 2);
+        FaceZones y = Check.crystal(1, -1, -2, 1, -1, -1, 0, -1, -1, -1, 1, 2, -2, -1, 2, -2, 2, 1, -1, 0, 1);
+        y.setLeast(3);
+        check.due("face(0, 7) with m 3", y.face(0, 7), 3);
+        check.due("face(4, 7) with m 3", y.face(4, 7), 2);
+        check.due("keyFace() with m 3", y.keyFace(), 4);
+    }
+
     static void promise24NoListedZone(Check check) {
         FaceZones x = Crystals.spread();
         x.setLeast(3);
